@@ -782,22 +782,22 @@ public final class TierPods {
 
         private int readNumber(int mostFigures) {
             int value = readFigure();
-            for (int figures = 1; figures < mostFigures && value != BAD && isFigure(); figures++) {
-                value = value * 10 + readFigure();
+            for (int figures = 1; figures < mostFigures && value != BAD; figures++) {
+                int figure = readFigure();
+                if (figure == BAD) {
+                    break;
+                }
+                value = value * 10 + figure;
             }
             return value;
         }
 
         private int readFigure() {
-            if (!isFigure()) {
+            if (at >= length || letters[at] < '0' || letters[at] > '9') {
                 return BAD;
             }
             at++;
             return letters[at - 1] - '0';
-        }
-
-        private boolean isFigure() {
-            return at < length && letters[at] >= '0' && letters[at] <= '9';
         }
 
         private boolean take(char letter) {
