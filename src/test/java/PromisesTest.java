@@ -33,8 +33,9 @@ public final class PromisesTest {
             due(1, "told(" + f + ", 3)", x.told(f, 3), 0);
         }
         for (int l = 0; l < 32; l++) {
-            due(1, "link(" + l + ", 3)", x.link(l, 3), l == 5 ? 1 : 0);
-            for (int n = 0; n < 20; n++) due(1, "mark(" + n + ", " + l + ")", x.mark(n, l), l == 5 ? 1 : 0);
+            TierPods y = new TierPods();
+            due(1, "link(" + l + ", 3)", y.link(l, 3), l == 5 ? 1 : 0);
+            for (int n = 0; n < 20; n++) due(1, "mark(" + n + ", " + l + ")", y.mark(n, l), l == 5 ? 1 : 0);
         }
         due(1, "fault()", x.fault(), NONE);
         due(1, "lay()", x.lay(), NO);
