@@ -106,6 +106,7 @@ final class LinksBoundaries {
         at.run("k2;", "cut(2, 1)=1", "tick(9)=3", "count(6)=2", "tick(9)=0", "count(6)=2", "undo()=1", "mark(0, 2)=0", "mark(1, 2)=0",
                 "late()=3", "undo()=0", "link(2, 3)=0");
         at.run("k2;x0;x1;x2;x3;", "cut(0, 0)=2", "late()=3", "tick(9)=0", "count(6)=1", "late()=3");
+        at.run("k2;", "cut(0, 1)=1", "tick(1)=1", "count(6)=2", "mark(4, 0)=1", "undo()=1", "mark(4, 0)=0");
         at.holds(12, "how many MARKS became other ones, in each TICK counted anew.");
         at.run("k2;", "cut(2, 1)=1", "tick(1)=2", "cut(2, 0)=2", "tick(2)=4", "late()=0", "count(6)=2");
         at.run("k2;", "cut(2, 1)=1", "tick(1)=2", "cut(2, 0)=2", "tick(1)=3", "late()=1", "mark(1, 2)=1", "tick(1)=1", "tick(1)=0");
@@ -159,6 +160,11 @@ final class LinksBoundaries {
                 "undo()=0", "link(0, 3)=0", "undo()=NO");
         at.run(NEW, "cut(0, 1)=1", "cut(1, 1)=1", "undo()=1", "undo()=0", "cut(2, 1)=1", "count(6)=1", "undo()=0", "undo()=NO",
                 "count(4)=1");
+        // What is UNDONE, and calls that make no change, take nothing from what can still be UNDONE.
+        at.run("k4;", "cut(0, 1)=1", "cut(1, 1)=1", "undo()=1", "cut(2, 1)=1", "cut(3, 1)=1", "cut(4, 1)=1", "undo()=1", "link(4, 3)=0",
+                "link(3, 3)=1", "undo()=0", "link(3, 3)=0", "link(2, 3)=1", "link(1, 3)=0", "link(0, 3)=1", "undo()=NO");
+        at.run("k2;x2;x3;", "cut(0, 1)=1", "cut(1, 1)=1", "undo()=1", "cut(1, 1)=1", "cut(1, 0)=2", "fault()=NONE", "plan()=0", "tick(9)=0",
+                "undo()=1", "link(1, 3)=1", "mark(1, 1)=1", "undo()=0", "link(1, 3)=0", "mark(1, 1)=0", "link(0, 3)=1", "undo()=NO");
         at.run("k4;", "undo()=NO", "cut(0, 1)=1", "lay()=16", "undo()=NO", "link(0, 3)=0");
         at.run("k4;", "write(120)=4", "cut(0, 1)=1", "write(49)=5", "undo()=0", "count(7)=5", "fault()=3");
     }

@@ -6,6 +6,9 @@ import java.util.Random;
 public final class RandomRunsTest {
     private static final int RUNS = 240;
     private static final int CALLS = 150;
+    private static final int MOST_CALLS = 512; // what a later call answers is free
+    private static final int TEXT_CALLS = 203;
+    private static final int LAST_CALLS = 8 + 16 * 6;
     private static int wrong = 0;
 
     private final Random random;
@@ -105,26 +108,30 @@ public final class RandomRunsTest {
         }
     }
 
-    private boolean sameEverywhere() {
+    private boolean hasRoomFor(int more) { return calls.size() + more + LAST_CALLS <= MOST_CALLS; }
+
+    /** Counts and flows, then ages and marks by chance, for as many calls as are left. */
+    private boolean sameAtTheEnd() {
         boolean fine = true;
         for (int c = 0; c < 8; c++) fine &= due("count(" + c + ")", pods.count(c), oracle.count(c));
-        for (int l = 0; l < oracle.count(3); l++) {
-            fine &= due("link(" + l + ", 3)", pods.link(l, 3), oracle.link(l, 3));
-            for (int n = 0; n < oracle.count(2); n++) fine &= due("mark(" + n + ", " + l + ")", pods.mark(n, l), oracle.mark(n, l));
-        }
         for (int f = 0; f < oracle.count(5); f++)
             for (int c = 0; c < 6; c++) fine &= due("told(" + f + ", " + c + ")", pods.told(f, c), oracle.told(f, c));
+        while (fine && calls.size() < MOST_CALLS) {
+            int l = random.nextInt(oracle.count(3)), n = random.nextInt(oracle.count(2));
+            fine = random.nextInt(8) == 0 ? due("link(" + l + ", 3)", pods.link(l, 3), oracle.link(l, 3))
+                    : due("mark(" + n + ", " + l + ")", pods.mark(n, l), oracle.mark(n, l));
+        }
         return fine;
     }
 
     private void go() {
         boolean fine = run % 4 == 0 || tellText();
-        for (int c = 0; fine && c < CALLS; c++) {
+        for (int c = 0; fine && c < CALLS && hasRoomFor(1); c++) {
             int chance = random.nextInt(200);
-            if (chance == 0) fine = tellText();
+            if (chance == 0 && hasRoomFor(TEXT_CALLS)) fine = tellText();
             else fine = chance < 80 ? change() : ask();
         }
-        if (fine) sameEverywhere();
+        if (fine) sameAtTheEnd();
     }
 
     public static void main(String[] args) {

@@ -236,6 +236,13 @@ final class WaysBoundaries {
         at.run("k4;", "cut(14, 1)=1", "pairs(0)=240", "pairs(1)=226", "tick(9)=18", "pairs(1)=240");
         at.run("k4;x14;x15;", "pairs(0)=184", "cut(14, 0)=2", "pairs(0)=240", "pairs(1)=212", "tick(9)=18", "pairs(1)=240");
         at.run("k2;", "pairs(-1)=BAD", "pairs(4)=BAD", "pairs(LOW)=BAD", "pairs(HIGH)=BAD");
+        // The fewest and the most, each asked for alone, and anew when there are fewer.
+        at.run("k2;", "pairs(3)=1", "cut(0, 1)=1", "pairs(3)=0", "undo()=0", "pairs(3)=1");
+        at.run("k2;", "pairs(2)=1", "cut(0, 1)=1", "pairs(2)=0", "undo()=0", "pairs(2)=1");
+        // Out of EDGE 0 of the other PODS letters with h = 0 come to CORE 16 and are LOST there; by SHIFT 1 it would be those
+        // with h = 1 out of their EDGE 1, of which POD 0 has none that sends any.
+        at.holds(20, "whose letter by SHIFT 0 ARRIVES (1)");
+        at.run("k4;x2;x3;", "pairs(0)=184", "pairs(1)=184", "cut(28, 1)=1", "pairs(0)=184", "pairs(1)=172");
     }
 
     private void parts() {
